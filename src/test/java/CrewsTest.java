@@ -1,6 +1,5 @@
 /** Promises 10 to 13: crew, ready, tie, walk. */
 public final class CrewsTest {
-    private static final int NONE = RaftRivers.NONE;
     private static final Due due = new Due();
 
     public static void main(String[] args) {
@@ -181,9 +180,7 @@ public final class CrewsTest {
         due.is("up two", x.walk(fromFour), 7 + 4);
         due.none("on foot", x.walk(fromFour));
         due.is("from the first", x.walk(fromOne), 7 + 6);
-        // A crew whose home is on another branch: 2's crew can only be brought down, never up to 4.
-        int low = x.crew(0);
-        due.none("the first one's crew is at home always", x.walk(low));
+        due.none("at home, at the first station", x.walk(x.crew(0)));
     }
 
     private static void restAtHome() {

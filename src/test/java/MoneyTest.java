@@ -1,6 +1,5 @@
 /** Promises 17 to 22: right, toll, price, sell, advance, balance. */
 public final class MoneyTest {
-    private static final int NONE = RaftRivers.NONE;
     private static final int NO_OWNER = Integer.MIN_VALUE;
     private static final Due due = new Due();
 

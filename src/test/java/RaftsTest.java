@@ -1,6 +1,5 @@
 /** Promises 5 to 9: put, bind, join, part, unbind. */
 public final class RaftsTest {
-    private static final int NONE = RaftRivers.NONE;
     private static final Due due = new Due();
 
     public static void main(String[] args) {

@@ -1,6 +1,5 @@
 /** Promises 1 to 4: a new object, station, trunk, find. */
 public final class StationsAndTrunksTest {
-    private static final int NONE = RaftRivers.NONE;
     private static final Due due = new Due();
 
     public static void main(String[] args) {
