@@ -12,6 +12,7 @@ public final class BestTest {
         whoCounts();
         fiveAndSix();
         fromNow();
+        passesAlone();
         withoutStorms();
         wrongArguments();
         changesNothing();
@@ -157,6 +158,19 @@ public final class BestTest {
         due.is("not in hour 11", x.raft(next, 0), 1);
         x.go(1);
         due.is("in hour 12", x.raft(next, 6), 13);
+    }
+
+    private static void passesAlone() {
+        due.part("promise 24, asked without best");
+        RaftRivers x = river(9, 2, 10);
+        readyRaft(x, 2);
+        due.is("passes(1, 0)", x.passes(1, 0), 0);
+        int next = readyRaft(x, 1);
+        due.is("passes(1, 1): 0 + 2 + 2 + 2 is enough", x.passes(1, 1), 3);
+        x.go(1);
+        due.is("the other one is left", x.passes(1, 0), 3);
+        x.tie(next);
+        due.none("none is left", x.passes(1, 0));
     }
 
     private static void withoutStorms() {
