@@ -709,7 +709,7 @@ public final class RaftRivers {
         }
 
         Trunk firstTrunk() {
-            return size > 0 ? rows[0].first() : null;
+            return size > 0 && rows[0].size > 0 ? rows[0].trunks[0] : null;
         }
 
         /** Whether it is READY at a weir that is wide enough for it. */
